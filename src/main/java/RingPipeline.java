@@ -365,7 +365,7 @@ public final class RingPipeline {
         private final int policy;
         private long place = NONE;
         /** What a worker of a pool has taken and not yet handled. */
-        private long event = NONE;
+        long event = NONE;
         int handled;
         int ignored;
         int rewound;

@@ -69,6 +69,9 @@ public final class AnswersTest {
         }
         RingPipeline first = ofEachKind(1);
         Due.due("level of one event", 0.25f, () -> first.level(1));
+        RingPipeline rounded = ofEachKind(3, 16777219);
+        float second = 0.75f + (16777220f - 0.75f) * 0.25f;
+        Due.due("the value is a float before anything is taken off", second, () -> rounded.level(1));
     }
 
     private static void means() {

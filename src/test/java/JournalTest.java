@@ -10,6 +10,7 @@ public final class JournalTest {
         recordBehindATear();
         wrongFirstByte();
         wrongLastByte();
+        lostLastByte();
         replaying();
         full();
         Due.finish();
@@ -139,6 +140,16 @@ public final class JournalTest {
         dueBytes(x, 12, 13, 0, 1, 0, 0, 0, 0, 0, 0, 0, 127, 0, 13 + 128, 13);
         Due.due("the first is right again, the second not", 1, () -> x.replay(1));
         Due.due("the sum of the first", 0L, x::replayed);
+    }
+
+    /** 243 makes the sum 256, whose lowest byte is 0: what is lost must not be read as a 0. */
+    private static void lostLastByte() {
+        RingPipeline x = journal(243);
+        dueBytes(x, 12, 0);
+        Due.due("it is whole", 1, () -> x.replay(1));
+        x.tear(1, 1);
+        Due.due("it is torn", 0, () -> x.replay(1));
+        Due.due("the sum of none", 0L, x::replayed);
     }
 
     private static void wrongLastByte() {
