@@ -9,15 +9,21 @@ final class Due {
     static final Class<? extends Exception> ELEMENT = java.util.NoSuchElementException.class;
 
     private static int wrong;
+    private static String sentence = "";
 
     private Due() {
+    }
+
+    /** The document's words that the next calls are about; printed with an answer that is wrong. */
+    static void sentence(String words) {
+        sentence = "'" + words + "': ";
     }
 
     static void due(String call, Object want, Callable<?> made) {
         Object got = answer(made);
         if (!Objects.equals(got, want)) {
             wrong++;
-            System.out.println(call + " answered " + got + ", due is " + want);
+            System.out.println(sentence + call + " answered " + got + ", due is " + want);
         }
     }
 

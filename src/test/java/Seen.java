@@ -1,0 +1,107 @@
+import java.util.concurrent.Callable;
+import java.util.function.Function;
+import java.util.function.Supplier;
+
+/** All that an object shows, now and when it goes on, so that two objects can be held together. */
+final class Seen {
+    private final RingPipeline x;
+    private final StringBuilder text = new StringBuilder();
+
+    private Seen(RingPipeline x) {
+        this.x = x;
+    }
+
+    /** The call is refused with what is due, and leaves the object as one that was never asked. */
+    static void refused(String call, Object due, Supplier<RingPipeline> make, Function<RingPipeline, ?> made) {
+        RingPipeline asked = make.get();
+        Due.due(call, due, () -> made.apply(asked));
+        String untouched = of(make.get());
+        Due.due(call + " changes nothing", untouched, () -> of(asked));
+    }
+
+    private static String of(RingPipeline x) {
+        Seen seen = new Seen(x);
+        seen.look();
+        seen.goOn();
+        seen.look();
+        return seen.text.toString();
+    }
+
+    private void add(String call, Callable<?> made) {
+        text.append(call).append(' ').append(Due.answer(made)).append('\n');
+    }
+
+    private int made() {
+        int number = 0;
+        while (hasConsumer(number)) {
+            number++;
+        }
+        return number;
+    }
+
+    private boolean hasConsumer(int number) {
+        return Due.answer(() -> x.place(number)) instanceof Long;
+    }
+
+    private void look() {
+        add("replayed", x::replayed);
+        add("cursor", () -> x.state(0, 0));
+        add("available", () -> x.state(1, 0));
+        for (int i = 0; i < 16; i++) {
+            int sequence = i;
+            add("published", () -> x.state(2, sequence));
+        }
+        for (int i = 0; i < made(); i++) {
+            lookAt(i);
+        }
+    }
+
+    private void lookAt(int consumer) {
+        add("place", () -> x.place(consumer));
+        add("total", () -> x.total(consumer));
+        add("level", () -> x.level(consumer));
+        add("mean", () -> x.mean(consumer));
+        for (int i = 0; i < 4; i++) {
+            int what = i;
+            add("count", () -> x.count(consumer, what));
+        }
+        for (int i = 0; Due.answer(isByte(consumer, i)) instanceof Integer; i++) {
+            add("octet", isByte(consumer, i));
+        }
+    }
+
+    private Callable<?> isByte(int consumer, int i) {
+        return () -> x.octet(consumer, i);
+    }
+
+    /** Pools, open sequences, what workers have and how often one was rewound show only here. */
+    private void goOn() {
+        add("consumer in pool 0", () -> x.consumer(0, 0, 0, 0));
+        add("consumer in pool 1", () -> x.consumer(0, 0, 0, 1));
+        publishOpen();
+        runAll(1);
+        for (int i = 0; i < 4; i++) {
+            int producer = i;
+            add("claim", () -> x.claim(producer, 1));
+        }
+        publishOpen();
+        runAll(20);
+    }
+
+    private void publishOpen() {
+        for (long i = x.state(1, 0) + 1; i <= x.state(0, 0); i++) {
+            long sequence = i;
+            for (int j = 0; j < 4; j++) {
+                int producer = j;
+                add("publish", () -> x.publish(producer, sequence, 100 + sequence));
+            }
+        }
+    }
+
+    private void runAll(int m) {
+        for (int i = 0; i < made(); i++) {
+            int consumer = i;
+            add("run", () -> x.run(consumer, m));
+        }
+    }
+}
