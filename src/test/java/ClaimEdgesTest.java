@@ -83,18 +83,31 @@ public final class ClaimEdgesTest {
         for (int slots : SIZES) {
             for (int free = 0; free <= slots; free++) {
                 for (int n = 1; n <= slots; n++) {
-                    RingPipeline x = new RingPipeline(slots);
-                    x.consumer(Make.SUM, 0, Make.IGNORE, -1);
-                    x.consumer(Make.SUM, 0, Make.IGNORE, -1);
-                    fill(x, slots, slots);
-                    x.run(0, slots);
-                    if (free > 0) {
-                        x.run(1, free);
-                    }
-                    dueRoom(x, slots, free, n);
+                    dueBehind(1, 0, slots, free, n);
                 }
             }
         }
+        for (int last = 0; last < 8; last++) {
+            dueBehind(8, last, 4, 0, 1);
+            dueBehind(8, last, 4, 2, 2);
+            dueBehind(8, last, 4, 2, 3);
+        }
+    }
+
+    /** All consumers are through with the whole ring but one, which is through with so many. */
+    private static void dueBehind(int consumers, int last, int slots, int free, int n) {
+        RingPipeline x = new RingPipeline(slots);
+        for (int i = 0; i < consumers; i++) {
+            x.consumer(Make.SUM, 0, Make.IGNORE, -1);
+        }
+        fill(x, slots, slots);
+        for (int i = 0; i < consumers; i++) {
+            int through = i == last ? free : slots;
+            if (through > 0) {
+                x.run(i, through);
+            }
+        }
+        dueRoom(x, slots, free, n);
     }
 
     private static void fill(RingPipeline x, int slots, int published) {

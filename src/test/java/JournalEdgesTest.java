@@ -147,6 +147,10 @@ public final class JournalEdgesTest {
             Due.due("records in " + bytes + " bytes", bytes / RECORD, () -> x.replay(0));
             Due.due("their sum", 7L * (bytes / RECORD), x::replayed);
         }
+        RingPipeline lost = journal(243);
+        Due.due("its last byte is 0", 0, () -> lost.octet(0, 12));
+        lost.tear(0, 1);
+        Due.due("a byte that is lost is not a 0", 0, () -> lost.replay(0));
         RingPipeline full = journalOf(390);
         Due.due("records in 390 bytes", 30, () -> full.replay(0));
         RingPipeline more = journalOf(387);
@@ -190,7 +194,12 @@ public final class JournalEdgesTest {
         Due.due("three whole and one torn record lie there", 60L, () -> x.total(0));
         Due.due("what comes behind a torn one is torn", 2, () -> x.replay(0));
         Due.due("the sum of two", 120L, x::replayed);
-        x.tear(0, 34);
+        x.tear(0, 21);
+        write(x, 70);
+        dueBytes(x, 39, 13, 0, 5);
+        Due.due("even where the thirteen bytes of a record would begin", 2, () -> x.replay(0));
+        Due.due("the sum of two again", 120L, x::replayed);
+        x.tear(0, 26);
         write(x, 4);
         Due.due("what comes behind a right one is right", 3, () -> x.replay(0));
         Due.due("the sum of three", 124L, x::replayed);

@@ -75,6 +75,7 @@ public final class KindEdgesTest {
         dueLevel(4194304.5f, (1L << 24) + 2);
         dueLevel(2.305843009213694E18f, Long.MAX_VALUE);
         dueLevel(4194304f + (5f - 4194304f) * 0.25f, 1L << 24, 5);
+        dueLevel(0.75f + (16777220f - 0.75f) * 0.25f, 3, 16777219);
     }
 
     private static void meanFromZero() {

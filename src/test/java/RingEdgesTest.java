@@ -15,6 +15,7 @@ public final class RingEdgesTest {
         claimedAgainInItsSlot();
         otherStates();
         sequenceBelowZero();
+        lastCall();
         Due.finish();
     }
 
@@ -219,5 +220,22 @@ public final class RingEdgesTest {
         Due.due("published without", -1L, () -> x.state(2, 2));
         Due.due("the greatest", -1L, () -> x.state(2, Long.MAX_VALUE));
         Due.due("the cursor of the greatest", 1L, () -> x.state(0, Long.MAX_VALUE));
+    }
+
+    private static void lastCall() {
+        Due.sentence("An object is used for at most 512 calls after it has been made");
+        RingPipeline x = new RingPipeline(4);
+        Due.due("call 1", 0, () -> x.consumer(Make.SUM, 0, Make.IGNORE, -1));
+        for (int i = 0; i < 170; i++) {
+            long sequence = i;
+            Due.due("call " + (3 * i + 2), sequence, () -> x.claim(producerOf(sequence), 1));
+            Due.due("call " + (3 * i + 3), true, () -> x.publish(producerOf(sequence), sequence, 1));
+            Due.due("call " + (3 * i + 4), 1, () -> x.run(0, 20));
+        }
+        Due.due("call 512", 170L, () -> x.total(0));
+    }
+
+    private static int producerOf(long sequence) {
+        return (int) (sequence % 4);
     }
 }

@@ -51,7 +51,8 @@ final class Seen {
             int sequence = i;
             add("published", () -> x.state(2, sequence));
         }
-        for (int i = 0; i < made(); i++) {
+        int consumers = made();
+        for (int i = 0; i < consumers; i++) {
             lookAt(i);
         }
     }
@@ -65,13 +66,19 @@ final class Seen {
             int what = i;
             add("count", () -> x.count(consumer, what));
         }
-        for (int i = 0; Due.answer(isByte(consumer, i)) instanceof Integer; i++) {
-            add("octet", isByte(consumer, i));
+        addBytes(consumer);
+    }
+
+    private void addBytes(int consumer) {
+        Object answer = octet(consumer, 0);
+        for (int i = 1; answer instanceof Integer; i++) {
+            text.append("octet ").append(answer).append('\n');
+            answer = octet(consumer, i);
         }
     }
 
-    private Callable<?> isByte(int consumer, int i) {
-        return () -> x.octet(consumer, i);
+    private Object octet(int consumer, int i) {
+        return Due.answer(() -> x.octet(consumer, i));
     }
 
     /** Pools, open sequences, what workers have and how often one was rewound show only here. */
@@ -86,6 +93,7 @@ final class Seen {
         }
         publishOpen();
         runAll(20);
+        runBackwards();
     }
 
     private void publishOpen() {
@@ -98,8 +106,22 @@ final class Seen {
         }
     }
 
+    /** The last ones first, with a claim behind each: it shows for which of them a slot must wait. */
+    private void runBackwards() {
+        for (int i = 0; i < 16; i++) {
+            add("claim", () -> x.claim(0, 1));
+        }
+        publishOpen();
+        for (int i = made() - 1; i >= 0; i--) {
+            int consumer = i;
+            add("run", () -> x.run(consumer, 20));
+            add("claim", () -> x.claim(0, 1));
+        }
+    }
+
     private void runAll(int m) {
-        for (int i = 0; i < made(); i++) {
+        int consumers = made();
+        for (int i = 0; i < consumers; i++) {
             int consumer = i;
             add("run", () -> x.run(consumer, m));
         }
