@@ -11,23 +11,27 @@ import java.util.TreeSet;
 
 /** The public face, and no member beside it that others can see; promise 1's constant. */
 public final class FaceTest {
+    private static final String ARGUMENT = " throws java.lang.IllegalArgumentException";
+    private static final String STATE = ",java.lang.IllegalStateException";
+    private static final String INDEX = ",java.lang.IndexOutOfBoundsException";
+    private static final String ELEMENT = " throws java.util.NoSuchElementException";
     private static final Set<String> FACE = Set.of(
             "public RingPipeline(int)",
             "public static final int RingPipeline.NONE",
-            "public int RingPipeline.consumer(int,int,int,int)",
-            "public long RingPipeline.claim(int,int)",
-            "public boolean RingPipeline.publish(int,long,long)",
-            "public int RingPipeline.run(int,int)",
-            "public long RingPipeline.place(int)",
-            "public long RingPipeline.total(int)",
-            "public float RingPipeline.level(int)",
-            "public double RingPipeline.mean(int)",
-            "public int RingPipeline.octet(int,int)",
-            "public int RingPipeline.tear(int,int)",
-            "public int RingPipeline.replay(int)",
+            "public int RingPipeline.consumer(int,int,int,int)" + ARGUMENT + STATE,
+            "public long RingPipeline.claim(int,int)" + ARGUMENT + STATE,
+            "public boolean RingPipeline.publish(int,long,long)" + ELEMENT,
+            "public int RingPipeline.run(int,int)" + ARGUMENT + STATE,
+            "public long RingPipeline.place(int)" + ARGUMENT,
+            "public long RingPipeline.total(int)" + ARGUMENT,
+            "public float RingPipeline.level(int)" + ARGUMENT,
+            "public double RingPipeline.mean(int)" + ARGUMENT,
+            "public int RingPipeline.octet(int,int)" + ARGUMENT + INDEX,
+            "public int RingPipeline.tear(int,int)" + ARGUMENT,
+            "public int RingPipeline.replay(int)" + ARGUMENT,
             "public long RingPipeline.replayed()",
-            "public int RingPipeline.count(int,int)",
-            "public long RingPipeline.state(int,long)");
+            "public int RingPipeline.count(int,int)" + ARGUMENT,
+            "public long RingPipeline.state(int,long)" + ARGUMENT);
 
     public static void main(String[] args) {
         Class<?> face = RingPipeline.class;
@@ -52,7 +56,7 @@ public final class FaceTest {
         Set<String> seen = new TreeSet<>();
         for (Member member : members) {
             if (!Modifier.isPrivate(member.getModifiers())) {
-                seen.add(text(member).replaceAll(" throws .*", ""));
+                seen.add(text(member));
             }
         }
         return seen;
